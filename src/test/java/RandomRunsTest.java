@@ -15,6 +15,13 @@ public final class RandomRunsTest {
     "-p*l*(k<5)", "-t*20*(k<9)", "(p>i)*-40+k", "q-t", "-q*p", "-p*q/9", "-(t+p)*q/99",
   };
 
+  /** By these, who stands behind mostly wants more to stand ahead: many sales. */
+  private static final String[] LIVELY = {
+    "-t*(i+1)", "-t*(i+1)", "-p*(i+1)", "-t*i*2", "-p*i*i", "-t*(i+1)/(k+1)", "-p*(i+2)*(k<4)", "-t*(9-k)", "-p*(q/9+i)",
+    "-t*(q+9)/9", "(k-4)*p*i", "-p*(i*7-k*k)", "-t*(1+(k<2)*i)", "-p*q*(k<6)", "(p<i)*60+k", "-t*i+q/3", "-p*99*(i>k)",
+    "q*k-t*(i+1)", "-t*(i+1)-k*9", "(-p*i-q)*3", "-p*(k*7/3+i)", "-t-i*p", "-p*(1-k/2*2)*9",
+  };
+
   private static final Map<String, Method> REAL = new HashMap<>();
   private static final Map<String, Method> NAIVE = new HashMap<>();
 
@@ -23,6 +30,7 @@ public final class RandomRunsTest {
   private final Naive naive = new Naive();
   private final List<String> log = new ArrayList<>();
   private boolean wrong = false;
+  private boolean lively = false;
 
   private RandomRunsTest(long seed) {
     random = new Random(seed);
@@ -132,6 +140,7 @@ public final class RandomRunsTest {
   }
 
   private String rule() {
+    if (lively && r(8) > 0) return LIVELY[r(LIVELY.length)];
     int k = r(10);
     if (k < 6) return RULES[r(RULES.length)];
     String s = expression(0);
@@ -155,18 +164,23 @@ public final class RandomRunsTest {
       if (b.length() > 0) b.append(';');
       if (naive.people + i > 1 && r(5) == 0) b.append('f').append(r(naive.people + i)).append('-').append(r(naive.people + i)).append(';');
       b.append(r(3) == 0 ? r(1000) : r(120)).append(',').append(1 + r(r(2) == 0 ? 9 : 3)).append(',').append(r(4));
-      if (r(8) == 0) b.append('!');
+      if (r(lively ? 25 : 8) == 0) b.append('!');
     }
     return b.toString();
   }
 
   private void go() throws Exception {
+    lively = r(3) > 0;
     for (int i = 0; i < 4; i++) {
       text(rule());
       call("rule", i);
     }
-    text(town(r(7)));
+    text(town(lively ? 3 + r(4) : r(7)));
     call("town");
+    if (lively && r(4) == 0) {
+      text(town(r(4)));
+      call("town");
+    }
     if (r(3) > 0) call("law", 2, 1 + r(6));
     if (r(2) > 0) call("law", 0, r(3));
     int calls = 30 + r(40);
@@ -203,6 +217,7 @@ public final class RandomRunsTest {
 
   private void step() throws Exception {
     int k = r(68);
+    if (lively && k < 13 && r(3) > 0) k = 34 + r(34);
     if (k < 34) tellOrSell(k);
     else if (!isDear()) ask(k);
   }
