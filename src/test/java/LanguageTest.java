@@ -1,0 +1,105 @@
+import java.lang.reflect.Constructor;
+import java.lang.reflect.Field;
+import java.lang.reflect.Method;
+import java.lang.reflect.Modifier;
+import java.nio.file.Files;
+import java.nio.file.Path;
+import java.util.ArrayList;
+import java.util.HashSet;
+import java.util.List;
+import java.util.Set;
+import java.util.TreeSet;
+import java.util.regex.Matcher;
+import java.util.regex.Pattern;
+
+/** The face is the document's, and what can be seen of the rules of LANGUAGE.md holds. */
+public final class LanguageTest {
+  private static final String FACE =
+      "int sign(int); boolean end(int); int town(); int rule(int); int of(int,int)!; int law(int,int);"
+      + "int sheet(int,int,int,int); boolean friend(int,int,boolean); int slow(int,int); int comes(int); int serve(int);"
+      + "int worth(int,int)!; int can(int); int sell(int); int undo(); int judge(int,int); int run(int,int); int open();"
+      + "int walls(); int sum(); int gained(int)!; int winner(); int forward(int); int back(int); int stand(int);"
+      + "int needs(int); int lines(); int cheapest(long); long paths(long); int ends(int); int foremost(int);"
+      + "int finest(); int rises(); long order(); int rests(); int places(int); int best(int); int bear(int);"
+      + "int tax(int); int turned(int,int); int seed(int); boolean keep(int); boolean again(int); int count(int);"
+      + "long line(); long row(int)!";
+  private static final String[] FORBIDDEN = {
+    "->", "::", "\\btry\\b", "\\bcatch\\b", "\\bfinally\\b", "\\bassert\\b", "\\bsynchronized\\b", "\\bvar\\b", "Exact\\(",
+    "\\bdouble\\b", "\\bfloat\\b", "System\\.(?!arraycopy)", "\\bstatic \\{", "\\bObject\\b", "\\bhashCode\\b", "\\btoString\\b",
+  };
+
+  private static int wrong = 0;
+
+  public static void main(String[] args) throws Exception {
+    face();
+    classes();
+    source();
+    System.out.println("language: " + wrong + " wrong");
+    if (wrong > 0) System.exit(1);
+  }
+
+  private static void holds(boolean is, String what) {
+    if (!is) {
+      wrong++;
+      System.out.println("language: " + what);
+    }
+  }
+
+  private static void face() {
+    Set<String> due = new TreeSet<>();
+    for (String s : FACE.split(";")) due.add(s.trim());
+    Set<String> got = new TreeSet<>();
+    Set<String> names = new HashSet<>();
+    for (Method m : SoldToBehind.class.getDeclaredMethods()) {
+      if (Modifier.isPrivate(m.getModifiers())) continue;
+      names.add(m.getName());
+      StringBuilder b = new StringBuilder(m.getReturnType() + " " + m.getName() + "(");
+      for (Class<?> c : m.getParameterTypes()) b.append(b.charAt(b.length() - 1) == '(' ? "" : ",").append(c);
+      got.add(b + ")" + (m.getExceptionTypes().length == 1 ? "!" : ""));
+      holds(Modifier.isPublic(m.getModifiers()) && !Modifier.isStatic(m.getModifiers()), m.getName() + " is not public");
+    }
+    holds(due.equals(got), "the face is " + got + ", due is " + due);
+    for (Method m : SoldToBehind.class.getDeclaredMethods()) {
+      holds(!Modifier.isPrivate(m.getModifiers()) || !names.contains(m.getName()), "a private " + m.getName());
+    }
+    for (Field f : SoldToBehind.class.getDeclaredFields()) {
+      holds(Modifier.isPrivate(f.getModifiers()) || f.getName().equals("NONE"), "a field of the face: " + f.getName());
+    }
+    Constructor<?>[] all = SoldToBehind.class.getDeclaredConstructors();
+    holds(all.length == 1 && all[0].getParameterCount() == 0 && Modifier.isPublic(all[0].getModifiers()), "constructors");
+    holds(Modifier.isFinal(SoldToBehind.class.getModifiers()), "the class is final");
+  }
+
+  private static void classes() {
+    List<Class<?>> all = new ArrayList<>(List.of(SoldToBehind.class.getDeclaredClasses()));
+    all.add(SoldToBehind.class);
+    holds(all.size() <= 12, all.size() + " classes");
+    for (Class<?> c : all) {
+      int own = 0;
+      for (Field f : c.getDeclaredFields()) {
+        if (!Modifier.isStatic(f.getModifiers())) own++;
+        else holds(Modifier.isFinal(f.getModifiers()), "a static field that is not final: " + f);
+      }
+      holds(own <= 20, c + " has " + own + " fields");
+      holds(c == SoldToBehind.class || Modifier.isStatic(c.getModifiers()), c + " is not static");
+      for (Method m : c.getDeclaredMethods()) holds(m.getParameterCount() <= 7, m + " has too many parameters");
+    }
+  }
+
+  private static void source() throws Exception {
+    List<String> lines = Files.readAllLines(Path.of("src/main/java/SoldToBehind.java"));
+    int opened = 0;
+    for (int i = 0; i < lines.size(); i++) {
+      String line = lines.get(i);
+      String code = line.replaceAll("//.*|^\\s*/?\\*.*", "").replaceAll("\"[^\"]*\"", "\"\"");
+      for (String f : FORBIDDEN) {
+        Matcher m = Pattern.compile(f).matcher(code);
+        holds(!m.find(), "line " + (i + 1) + ": " + f);
+      }
+      holds(!code.startsWith("import") || code.matches("import java.util.(Arrays|NoSuchElementException);"), code);
+      if (code.matches(" {4}( {4})?[a-z].*\\) (throws \\w+ )?\\{")) opened = i;
+      if (code.matches(" {4}( {4})?\\}")) holds(i - opened <= 60, "a method of more than 60 lines ends at " + (i + 1));
+      for (char c : line.toCharArray()) holds(c > 0 && c < 128, "line " + (i + 1) + " has a sign beyond 127");
+    }
+  }
+}
