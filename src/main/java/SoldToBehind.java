@@ -325,7 +325,6 @@ public final class SoldToBehind {
     }
 
     public int walls() {
-        now.weighAll();
         int passable = 0;
         int walls = 0;
         for (int place = 1; place < now.size; place++) {

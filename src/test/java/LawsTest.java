@@ -2,10 +2,12 @@
 public final class LawsTest {
   public static void main(String[] args) {
     best();
+    bestAtTheEdge();
     bear();
     tax();
     turned();
     wrongSorts();
+    runsOf200();
     Probe.finish(38, 41);
   }
 
@@ -34,6 +36,28 @@ public final class LawsTest {
     Probe f = new Probe().rules("-p*(i+1)", "-p*9-k*20").people("5,1,0;9,1,0;2,1,1");
     f.due(38, "a fee that keeps one away", f.x.best(1), -19, 0, 1, 1);
     f.due(38, "none is needed from the front", f.x.best(0), -19, 0, 0, 1);
+  }
+
+  /**
+   * 1 buys of its friend 0, which is good. 3 buys of its friend 2 and 5 of 4, which both is bad by k. By GAIN and a fee
+   * 5 does not; 3 does as long as it has the fee.
+   */
+  private static void bestAtTheEdge() {
+    Probe p = new Probe().rules("0", "-p*50", "-p*50-k*900");
+    p.people("0,1,0;500,1,1;0,1,0;8,1,2;0,1,0;500,1,2;f0-1;f2-3");
+    p.due(38, "the last sort, the greatest fee", p.x.best(0), -400, 2, 9, 1);
+    p.x.sheet(2, 6, 9, 0);
+    p.due(38, "no greater fee is tried", p.x.best(0), -450, 0, 0, 0);
+  }
+
+  /** They change their minds with every sale, and there are more than 200 of them. */
+  private static void runsOf200() {
+    Probe p = new Probe().rules("-p*(k-k/2*2)*9", "-p*(1-(k-k/2*2))*9");
+    p.people("500,1,0;500,1,1;500,1,0!;500,1,0;500,1,1;500,1,0!;500,1,0;500,1,1");
+    p.due(39, "run() of 200", p.x.bear(0), 9, 200, 1800);
+    p.due(40, "run() of 200", p.x.tax(0), 9, 1800, 200);
+    p.due(18, "run(0, 200)", p.x.run(0, 200), 200, 0, 0);
+    p.due(18, "97 more", p.x.run(0, 200), 97, 1, 0);
   }
 
   private static void bear() {

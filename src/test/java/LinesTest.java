@@ -76,6 +76,20 @@ public final class LinesTest {
     k.due(30, "rows of 1, 3, 5, 7, 9 sales", k.x.paths(110), 5, 1);
     k.due(30, "rows of 0, 2, 4, 6, 8 sales", k.x.paths(101), 5, 1);
     k.due(28, "by ten", k.x.lines(), 10, 2, 1, 9, 9);
+    fullPurses();
+  }
+
+  /** What full purses lose makes like lines dearer or cheaper: found by trying many towns, due by Naive too. */
+  private static void fullPurses() {
+    Probe p = new Probe().rules("-p*i*i", "-p*(i*3-k)", "-p*(i+1)*(k+1)");
+    p.people("999,2,0;997,2,0;999,2,1;997,1,2").law(1, 0, 5, 0);
+    p.due(29, "the least row of equal ends", p.x.cheapest(13210), 19, 1, 2, 3, 2, 1, 2);
+    Probe q = new Probe().rules("-p*(i+1)", "-p*(i*3-k)", "-p*(i*3-k)", "-p*(i*3-k)");
+    q.people("999,1,3;999,2,0;999,1,0;996,2,3").law(1, 1, 3, 0);
+    q.due(29, "the least row of equal ends", q.x.cheapest(13210), 22, 1, 2, 3, 2, 1, 2);
+    Probe r = new Probe().rules("-p*(i+1+k*2)", "-p*(i+1+k*2)", "-p*(i+1)/(k+1)", "-t*i");
+    r.people("999,1,3;997,2,3;4,1,2;998,2,0").law(1, 1, 3, 0);
+    r.due(29, "the least row to one end", r.x.cheapest(13120), 16, 1, 3, 2, 1, 3);
   }
 
   private static void codes() {
@@ -95,6 +109,12 @@ public final class LinesTest {
     nine.due(29, "nine", nine.x.cheapest(1876543210), -2);
     nine.due(29, "nine", nine.x.cheapest(1876543219), -1);
     nine.due(29, "eight of nine", nine.x.cheapest(112345678), -1);
+    // Behind FIRST only the last place is sold.
+    nine.law(0, 0, 99, 7);
+    nine.due(29, "nine, the last place", nine.x.cheapest(1012345687), 8, 8);
+    nine.due(30, "nine, the last place", nine.x.paths(1012345687), 1, 1);
+    nine.rule(0, "-p*(i+1)-k*5");
+    nine.due(34, "nine, the last place", nine.x.rises(), 0, 8, -9);
   }
 
   private static void paths() {

@@ -72,5 +72,7 @@ public final class OrdersTest {
     Probe eight = Probe.eager(8);
     eight.due(37, "eight", eight.x.places(0), -3);
     eight.due(37, "eight, not in the line", eight.x.places(8), -1);
+    Probe seven = Probe.eager(7);
+    seven.due(37, "seven", seven.x.places(0), 64, 6, 1);
   }
 }

@@ -181,6 +181,7 @@ public final class RandomRunsTest {
       text(town(r(4)));
       call("town");
     }
+    if (lively && r(3) == 0) call("sheet", 2, 9, 990 + r(11), r(2));
     if (r(3) > 0) call("law", 2, 1 + r(6));
     if (r(2) > 0) call("law", 0, r(3));
     int calls = 30 + r(40);
@@ -249,7 +250,7 @@ public final class RandomRunsTest {
       case 22: case 23: call("run", r(4), r(5)); break;
       case 24: call("run", r(7) - 1, r(240) - 10); break;
       case 25: call("open"); break;
-      case 26: if (r(8) == 0) call("walls"); break;
+      case 26: if (r(8) == 0 || !String.join("", naive.rules).contains("q")) call("walls"); break;
       case 27: call("seed", random.nextInt()); break;
       case 28: call("keep", r(4) - 1); break;
       case 29: call("again", r(4) - 1); break;

@@ -300,6 +300,15 @@ public final class SalesTest {
     m.rule(1, "-p*9");
     m.due(20, "by the seller's q", m.law(0, 0, 99, 0).x.walls(), 0, 2, 0);
     m.due(20, "it can't be now", m.x.can(1), 0);
+    m.rules("0", "-p*(q=0)*5");
+    m.due(20, "by q, an empty purse alone", m.x.walls(), 0, 2, 0);
+    m.rules("0", "-p*(q=999)*5");
+    m.due(20, "by q, a full purse alone", m.x.walls(), 0, 2, 0);
+    // 1 loses (2 + 3)(2 + 3) - 2 * 2 = 21 by the minutes of 2, who gains 20 or 22.
+    Probe t = new Probe().rules("9", "-t*t", "-p*20").people("0,2,0;0,1,1;0,3,2");
+    t.due(20, "by minutes", t.x.walls(), 1, 2, 4);
+    t.rule(2, "-p*22");
+    t.due(20, "by minutes", t.x.walls(), 0, 6, 0);
     Probe none = new Probe();
     none.due(20, "nobody", none.x.walls(), 0, 0, 0);
   }

@@ -70,6 +70,7 @@ public final class TownTest {
     p.due(4, "friends of 0", p.x.of(0, 6), 6);
     p.due(4, "friends of 2", p.x.of(2, 6), 1);
     p.due(4, "count(6)", p.x.count(6), 0);
+    p.due(4, "friends of one, told twice", new Probe().people("1,1,1;1,1,1;1,1,1;f0-1;f0-2").x.of(0, 6), 6);
     p.due(4, "more of the town", p.town("f1-2;5,5,2"), 2);
     p.due(4, "line()", p.x.line(), 10123);
     p.due(4, "friends of 1", p.x.of(1, 6), 5);
@@ -147,7 +148,7 @@ public final class TownTest {
   private static void ruleWrong() {
     String forty = "1+1+1+1+1+1+1+1+1+1+1+1+1+1+1+1+1+1+1+10";
     String[][] wrong = {
-      {"x", "0"}, {"+t", "0"}, {"t+", "2"}, {"t+*", "2"}, {"t<n>p", "3"}, {"t=n=p", "3"}, {"(t<n)<p<n", "7"}, {"(t<n<p)", "4"},
+      {"x", "0"}, {"+t", "0"}, {"t+", "2"}, {"t+*", "2"}, {"t<n>p", "3"}, {"t=n=p", "3"}, {"(t<n)<p<n", "7"}, {"(t<n<p)", "4"}, {"t<(n<1)<p", "7"},
       {"(", "1"}, {"()", "1"}, {")", "0"}, {"t)", "1"}, {"(t", "2"}, {"(t))", "3"}, {"(((((t", "4"}, {"((((t)))", "8"},
       {"((((t))))((", "9"}, {"1000", "3"}, {"12t", "2"}, {"t1", "1"}, {"tt", "1"}, {"(t)1", "3"}, {"(t)(", "3"}, {"1 ", "1"}, {"-", "1"},
       {"--", "2"}, {"1-", "2"}, {"1--", "3"}, {"t*/", "2"}, {"1(", "1"}, {"T", "0"}, {"a", "0"}, {"0-1234", "5"},
@@ -263,6 +264,7 @@ public final class TownTest {
     p.due(9, "of(0, 6)", p.x.of(0, 6), 4);
     p.due(9, "friend(2, 0) no more", p.x.friend(2, 0, false), true);
     p.due(9, "of(0, 6)", p.x.of(0, 6), 0);
+    p.due(9, "of(2, 6)", p.x.of(2, 6), 0);
     p.due(9, "friend(1, 1)", p.x.friend(1, 1, true), false);
     p.due(9, "friend(0, 3)", p.x.friend(0, 3, true), false);
     p.due(9, "friend(-1, 0)", p.x.friend(-1, 0, true), false);
