@@ -1235,7 +1235,7 @@ public final class SoldToBehind {
         final int[] here = new int[MOST_PEOPLE];
         private final int[] ahead = new int[MOST_PEOPLE];
         private final int[] behind = new int[MOST_PEOPLE];
-        private final Town town;
+        final Town town;
 
         Standing(Town town) {
             this.town = town;
