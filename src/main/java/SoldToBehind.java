@@ -88,6 +88,11 @@ public final class SoldToBehind {
         if (wrong != NONE) {
             return -1 - wrong;
         }
+        if (townReader.lines == 0) {
+            // Nothing is told of the town, so the line as it came stays; the call itself still forgets sales.
+            past.forget();
+            return 0;
+        }
         for (int person = town.people; person < townReader.people; person++) {
             now.welcome(person, townReader.purse[person]);
         }
@@ -335,7 +340,7 @@ public final class SoldToBehind {
             }
         }
         told.tell(passable, walls);
-        return Integer.bitCount(walls);
+        return Integer.bitCount(passable);
     }
 
     // ---- what comes of it

@@ -96,7 +96,7 @@ final class Naive {
     String t = text.toString();
     text.setLength(0);
     if (t.isEmpty()) {
-      settle();
+      undos.clear();
       return 0;
     }
     String head = t.length() > 76 ? t.substring(0, 76) : t;
@@ -519,7 +519,7 @@ final class Naive {
       if (could) yes |= 1L << p; else no |= 1L << p;
     }
     row = List.of(yes, no);
-    return Long.bitCount(no);
+    return Long.bitCount(yes);
   }
 
   // ---- what comes of it

@@ -52,6 +52,35 @@ public final class OutcomeTest {
     q.x.sell(1);
     q.x.slow(0, 9);
     q.due(22, "by longs", q.x.gained(1), 43, 44, -1);
+    sinceTheTown();
+  }
+
+  /** Only a text that tells of the town makes the line as it is the one that came. */
+  private static void sinceTheTown() {
+    Probe p = Probe.three();
+    p.x.sell(1);
+    p.due(22, "town of nothing", p.town(""), 0);
+    p.due(22, "behind a town of nothing", p.x.gained(1), 9, 10, -1);
+    p.due(22, "a wrong town", p.town("1,1,1;x"), -7);
+    p.due(22, "behind a wrong town", p.x.gained(0), 0, -1, 1);
+    p.due(23, "winner() behind a town of nothing", p.x.winner(), 1, 9, 2);
+    p.people("f0-1");
+    p.due(22, "behind friends", p.x.gained(1), 0, 0, 0);
+    p.x.sheet(3, 0, 0, 0);
+    p.due(22, "by a sheet", p.x.gained(1), -49, 0, -49);
+    p.people("");
+    p.due(22, "by a sheet, behind a town of nothing", p.x.gained(1), -49, 0, -49);
+    p.people("5,1,0");
+    p.due(22, "behind one more", p.x.gained(1), 0, 0, 0);
+    // What is kept has the line as it came with it, whatever was told of nothing since.
+    Probe k = Probe.three();
+    k.x.sell(1);
+    k.people("");
+    k.x.keep(0);
+    k.x.serve(0);
+    k.due(22, "behind serve(0)", k.x.gained(1), 0, 0, 0);
+    k.due(44, "again(0)", k.x.again(0), true);
+    k.due(22, "behind again()", k.x.gained(1), 9, 10, -1);
   }
 
   private static void winner() {

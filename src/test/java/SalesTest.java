@@ -270,46 +270,48 @@ public final class SalesTest {
     p.due(20, "walls()", p.x.walls(), 1, 2, 4);
     Probe e = Probe.eager(3);
     e.x.sheet(3, 0, 0, 0);
-    e.due(20, "with empty purses", e.x.walls(), 0, 6, 0);
+    e.due(20, "with empty purses", e.x.walls(), 2, 6, 0);
     e.due(20, "none can be", e.x.open(), 0);
     e.due(20, "FIRST", e.law(0, 0, 99, 1).x.walls(), 1, 4, 2);
-    e.due(20, "MOST", e.law(0, 0, 0, 0).x.walls(), 2, 0, 6);
-    e.due(20, "FEE", e.law(0, 2, 99, 0).x.walls(), 2, 0, 6);
+    e.due(20, "MOST", e.law(0, 0, 0, 0).x.walls(), 0, 0, 6);
+    e.due(20, "FEE", e.law(0, 2, 99, 0).x.walls(), 0, 0, 6);
     e.x.friend(1, 2, true);
     e.due(20, "FEE, friends", e.x.walls(), 1, 4, 2);
     Probe dear = Probe.eager(4);
     dear.rule(0, "-p*(i+1)*400");
-    dear.due(20, "a price above 999", dear.x.walls(), 1, 6, 8);
+    dear.due(20, "a price above 999", dear.x.walls(), 2, 6, 8);
     Probe s = new Probe().rules("-p*(i+1)").people("0,1,0!;0,1,0;0,1,0");
     s.due(20, "STUBBORN", s.x.walls(), 1, 4, 2);
     // By q: a full purse of the buyer and an empty one of the seller make a sale.
     Probe q = new Probe().rules("-p*q").people("0,1,0;0,1,0");
-    q.due(20, "by q", q.x.walls(), 0, 2, 0);
+    q.due(20, "by q", q.x.walls(), 1, 2, 0);
     q.due(20, "none can be", q.x.open(), 0);
     q.due(20, "the purses stay", q.x.count(4), 0);
     // Twice the purse is gained and asked for: no purse gets through.
     Probe w = new Probe().rules("0", "-p*q*2").people("9,1,0;9,1,1").law(2, 0, 99, 0);
-    w.due(20, "by q, a wall", w.x.walls(), 1, 0, 2);
-    w.due(20, "by q, LOSS is asked for", w.law(0, 0, 99, 0).x.walls(), 0, 2, 0);
+    w.due(20, "by q, a wall", w.x.walls(), 0, 0, 2);
+    w.due(20, "by q, LOSS is asked for", w.law(0, 0, 99, 0).x.walls(), 1, 2, 0);
     // Only a middling purse gets through: it gains 50 with 40 to 60 coins alone, and pays 50.
     Probe m = new Probe().rules("0", "-p*(q>39)*(61>q)*50").people("0,1,0;0,1,1").law(2, 0, 99, 0);
-    m.due(20, "by q, the middle", m.x.walls(), 0, 2, 0);
+    m.due(20, "by q, the middle", m.x.walls(), 1, 2, 0);
     m.rule(1, "-p*(q>39)*(50>q)*50");
-    m.due(20, "by q, too low", m.x.walls(), 1, 0, 2);
+    m.due(20, "by q, too low", m.x.walls(), 0, 0, 2);
     m.rule(0, "-p*(q-500)*(q-500)");
     m.rule(1, "-p*9");
-    m.due(20, "by the seller's q", m.law(0, 0, 99, 0).x.walls(), 0, 2, 0);
+    m.due(20, "by the seller's q", m.law(0, 0, 99, 0).x.walls(), 1, 2, 0);
     m.due(20, "it can't be now", m.x.can(1), 0);
     m.rules("0", "-p*(q=0)*5");
-    m.due(20, "by q, an empty purse alone", m.x.walls(), 0, 2, 0);
+    m.due(20, "by q, an empty purse alone", m.x.walls(), 1, 2, 0);
     m.rules("0", "-p*(q=999)*5");
-    m.due(20, "by q, a full purse alone", m.x.walls(), 0, 2, 0);
+    m.due(20, "by q, a full purse alone", m.x.walls(), 1, 2, 0);
     // 1 loses (2 + 3)(2 + 3) - 2 * 2 = 21 by the minutes of 2, who gains 20 or 22.
     Probe t = new Probe().rules("9", "-t*t", "-p*20").people("0,2,0;0,1,1;0,3,2");
     t.due(20, "by minutes", t.x.walls(), 1, 2, 4);
     t.rule(2, "-p*22");
-    t.due(20, "by minutes", t.x.walls(), 0, 6, 0);
+    t.due(20, "by minutes", t.x.walls(), 2, 6, 0);
     Probe none = new Probe();
     none.due(20, "nobody", none.x.walls(), 0, 0, 0);
+    Probe flat = new Probe().people("10,2,0;50,1,1");
+    flat.due(20, "by no rules", flat.x.walls(), 0, 0, 2);
   }
 }
