@@ -805,7 +805,8 @@ public final class SoldToBehind {
     private static final class Formula {
         static final int SIGNS_FROM = 1000;
         static final int OPERATIONS_FROM = 2000;
-        static final int NEGATE = '~';
+        // Beyond every sign that a text can have, so that none of them is taken for it.
+        static final int NEGATE = 256;
 
         final int[] steps = new int[MOST_RULE_TEXT];
         int size = 0;

@@ -153,7 +153,7 @@ public final class RandomRunsTest {
     for (int n = 1 + r(2); n > 0; n--) {
       int at = r(b.length() + 1);
       if (r(3) == 0 && b.length() > 0) b.deleteCharAt(Math.min(at, b.length() - 1));
-      else b.insert(at, signs.charAt(r(signs.length())));
+      else b.insert(at, r(4) == 0 ? (char) r(256) : signs.charAt(r(signs.length())));
     }
     return b.toString();
   }

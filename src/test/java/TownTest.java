@@ -6,8 +6,10 @@ public final class TownTest {
     town();
     townWrong();
     townLong();
+    townAnySign();
     rule();
     ruleWrong();
+    ruleAnySign();
     ruleValues();
     of();
     law();
@@ -123,6 +125,25 @@ public final class TownTest {
     p.due(4, "friends with 9", p.town("f0-9"), -4);
   }
 
+  /** Behind each head all 256 signs: those told can stand there, whatever comes then; the others can't. */
+  private static void townAnySign() {
+    String[][] heads = {
+      {"", "0123456789f"}, {"1", "0123456789,"}, {"12", "0123456789,"}, {"123", ","}, {"1,", "123456789"}, {"1,2", ","},
+      {"1,2,", "0123"}, {"1,2,3", "!;"}, {"1,2,3!", ";"}, {"1,2,3;", "0123456789f"}, {"1,2,3!;", "0123456789f"},
+      {"1,2,3;f", "0"}, {"1,2,3;f0", "-"}, {"1,2,3;f0-", ""}, {"1,2,3;1,2,3;f", "01"}, {"1,2,3;1,2,3;f1-", "0"},
+      {"1,2,3;1,2,3;f1-0", ";"}, {"1,2,3;1,2,3;f1-0;", "0123456789f"},
+    };
+    for (String[] h : heads) {
+      for (char c = 0; c < 256; c++) {
+        boolean stands = h[1].indexOf(c) >= 0;
+        Probe p = new Probe();
+        // Behind a sign that stands, one that never can tells that it was read.
+        p.due(4, "town of " + h[0] + " and the sign " + (int) c, p.town(h[0] + c + (char) 255), -1 - h[0].length() - (stands ? 1 : 0));
+        p.due(4, "count(0)", p.x.count(0), 0);
+      }
+    }
+  }
+
   private static void rule() {
     Probe p = new Probe();
     p.due(5, "rule(0)", p.rule(0, "t"), 0);
@@ -168,6 +189,36 @@ public final class TownTest {
     p.due(5, "39 times less", p.x.worth(0, 0), -1);
     p.due(5, "( ) in one another, and again", p.rule(0, "((((1))))+((((2))))"), 0);
     p.due(5, "( )", p.x.worth(0, 0), 3);
+  }
+
+  /** As townAnySign(), of a RULE. */
+  private static void ruleAnySign() {
+    String things = "tpnliqk0123456789-(";
+    String binding = "<>=+-*/";
+    String[][] heads = {
+      {"", things}, {"-", things}, {"--", things}, {"(", things}, {"t+", things}, {"t-", things}, {"t*", things}, {"t/", things},
+      {"t<", things}, {"t>", things}, {"t=", things}, {"(((", things}, {"((((", things.substring(0, 18)}, {"((((t))))-", things},
+      {"t", binding}, {"p", binding}, {"n", binding}, {"l", binding}, {"i", binding}, {"q", binding}, {"k", binding}, {"-t", binding},
+      {"1", binding + "0123456789"}, {"12", binding + "0123456789"}, {"123", binding}, {"(1", binding + "0123456789)"},
+      {"(123", binding + ")"}, {"(t", binding + ")"}, {"(t)", binding}, {"((t)", binding + ")"}, {"((((t", binding + ")"},
+      {"t<p", "+-*/"}, {"t=1", "+-*/0123456789"}, {"t>p+n", "+-*/"}, {"t<(p", binding + ")"}, {"t<(p=n", "+-*/)"}, {"(t<p)", binding},
+      {"(t<p", "+-*/)"}, {"(t<p)=n", "+-*/"}, {"(t<p)+(n", binding + ")"},
+    };
+    for (String[] h : heads) {
+      for (char c = 0; c < 256; c++) {
+        boolean stands = h[1].indexOf(c) >= 0;
+        Probe p = new Probe();
+        p.due(5, "rule of " + h[0] + " and the sign " + (int) c, p.rule(0, h[0] + c + (char) 255), -1 - h[0].length() - (stands ? 1 : 0));
+        p.due(5, "count(3)", p.x.count(3), 0);
+      }
+    }
+    // The signs of issue 9, and one that is none as the last of 40 and behind them.
+    Probe p = new Probe();
+    p.due(5, "l~", p.rule(0, "l~" + (char) 250 + (char) 96), -2);
+    p.due(5, "l~t", p.rule(0, "l~t"), -2);
+    String head = "1+1+1+1+1+1+1+1+1+1+1+1+1+1+1+1+1+1+1+1";
+    p.due(5, "~ at 39", p.rule(0, head + "~"), -40);
+    p.due(5, "~ at 40", p.rule(0, head + "1~"), -41);
   }
 
   private static void ruleValues() {
