@@ -25,6 +25,13 @@ final class LawsEdges extends Edges {
       Probe p = pairs(99, 99, 99);
       tells(p, "198 of 200, run " + sort, p.x.best(sort), 0, 0, 1, 99);
     }
+    // 201 SALES are one too many, 200 are not.
+    for (int sort : new int[] {0, 3}) {
+      Probe more = pairs(99, 99, 3);
+      tells(more, "201, run " + sort, more.x.best(sort), 0, 0, 1, 99);
+      Probe just = pairs(99, 99, 2);
+      tells(just, "200, run " + sort, just.x.best(sort), 0, 0, 0, 99);
+    }
     Probe nobody = new Probe();
     tells(nobody, "nobody", nobody.x.best(0), 0, 0, 0, 0);
     Probe now = Probe.eager(3);
@@ -107,6 +114,7 @@ final class LawsEdges extends Edges {
     is("1", pair("1", "2", 0, 9).x.bear(0), 1);
     is("none", pair("1", "2", 0, 9).law(2, 0, 99, 0).x.bear(0), 0);
     is("no SALES at all", pair("2", "1", 0, 9).x.bear(0), 99);
+    is("no SALES at all, a coin is missing", pair("5", "9", 0, 4).x.bear(0), 99);
     is("nobody", new Probe().x.bear(0), 99);
     // With FEES 1 to 3 the seller buys back: two SALES, not one.
     Probe more = new Probe().rules("-p*3*(k=1)", "-p*50*(q>99)").people("50,1,0;100,1,1");
@@ -145,6 +153,8 @@ final class LawsEdges extends Edges {
     tells(none, "no SALES", none.x.tax(0), 0, 0, 0);
     Probe most = fickle(3, "", "");
     for (int sort : SORTS) tells(most, "200 of 297, run " + sort, most.x.tax(sort), 9, 1800, 200);
+    Probe missing = pair("5", "9", 0, 4);
+    tells(missing, "no SALES, a coin is missing", missing.x.tax(0), 0, 0, 0);
     says(40, "NONE: as best().");
     for (int sort : NO_SORTS) refused(Edges::busy, "tax(" + sort + ")", -1, x -> x.tax(sort));
     says(40, "Nothing changes.");
@@ -161,6 +171,8 @@ final class LawsEdges extends Edges {
     // Of three pairs one does not come to rest: the last, as 200 SALES are made by then, who misses 9 by each PLACE ahead;
     // or the first, as 0 does not sell.
     is("200 of 297", pairs(99, 99, 99).x.turned(0, 0), 7 * 9 - 9);
+    is("200 of 201", pairs(99, 99, 3).x.turned(0, 0), 7 * 9 - 9);
+    is("all of 200", pairs(99, 99, 2).x.turned(0, 0), -9);
     is("all of 198", pairs(99, 99).x.turned(0, 0), -9);
     is("the ROW stays", p.x.count(5), 0);
     says(41, "if one of PEOPLE in THE LINE was not STUBBORN, or was, the other way round than it is.");

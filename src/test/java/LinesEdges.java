@@ -50,6 +50,9 @@ final class LinesEdges extends Edges {
     tells(most, "four LINES", most.x.lines(), 2000, 4, 1, 118, 118);
     Probe one = Probe.eager(7).law(0, 0, 1, 0);
     tells(one, "three or two SALES till rest", one.x.lines(), 21, 21, 5, 3, 2);
+    // Sets of neighbours apart: of nine 55, of which 9 leave no two neighbours over.
+    Probe nine = Probe.eager(9).law(0, 0, 1, 0);
+    tells(nine, "nine, each in one SALE at most", nine.x.lines(), 55, 55, 9, 4, 3);
     says(28, "-3.");
     refused(LinesEdges::just2001, "lines() of 2001", -3, x -> x.lines());
     refused(() -> Probe.eager(9), "lines() of very many", -3, x -> x.lines());
@@ -74,6 +77,9 @@ final class LinesEdges extends Edges {
     tells(five, "eight", five.x.cheapest(142301), 16, 2, 1, 3, 2, 4, 3, 2, 1);
     tells(five, "eight of nine", five.x.cheapest(143120), 18, 1, 2, 3, 2, 1, 4, 3, 2);
     tells(nine, "the last PLACE", nine.x.cheapest(1012345687L), 8, 8);
+    nine.law(0, 0, 1, 0);
+    tells(nine, "the first PLACE of nine", nine.x.cheapest(1102345678L), 1, 1);
+    tells(nine, "four of nine", nine.x.cheapest(1103254768L), 1 + 3 + 5 + 7, 1, 3, 5, 7);
     says(29, "of equal ones the fewest, then the least row.");
     Probe fickle = pairs(99);
     tells(fickle, "one of 1, 3, .. 99", fickle.x.cheapest(110), 0, 1);
@@ -83,6 +89,9 @@ final class LinesEdges extends Edges {
     says(29, "-2: it can't be;");
     refused(Edges::busy, "who never sells is the first", -2, x -> x.cheapest(131245));
     refused(() -> Probe.eager(9).law(0, 0, 0, 0), "MOST of 0", -2, x -> x.cheapest(1102345678L));
+    Probe fewer = Probe.eager(3);
+    is("it could be", fewer.x.cheapest(1102), 1);
+    is("it can't any more", fewer.law(0, 0, 0, 0).x.cheapest(1102), -2);
     Probe sold = Probe.eager(2);
     sold.x.sell(1);
     is("who sold can't come ahead again", sold.x.cheapest(101), -2);
@@ -131,11 +140,20 @@ final class LinesEdges extends Edges {
     wraps.x.paths(101234);
     is("they wrap", wraps.x.row(0), choose(86, 43).longValue());
     says(30, "-2: none;");
+    Probe fewer = Probe.eager(3);
+    is("one", fewer.x.paths(1102), 1);
+    for (long code : new long[] {1102, 1021, 1120, 1201, 1210}) is("none any more", fewer.law(0, 0, 0, 0).x.paths(code), -2);
     refused(Edges::busy, "who never sells is the first", -2, x -> x.paths(131245));
     refused(() -> Probe.eager(9).law(0, 0, 0, 0), "MOST of 0", -2, x -> x.paths(1102345678L));
     says(30, "-3;");
     refused(LinesEdges::just2001, "THE LINE as it is, of 2001", -3, x -> x.paths(x.line()));
-    is("of 2000", just2000().x.paths(101234) != 0, true);
+    // Row by row of SALES of the first pair: C(a + b, a) rows lead to a SALES of the first and b of the second.
+    long[] codes = {101234, 110234, 101243, 110243};
+    for (int i = 0; i < 4; i++) {
+      BigInteger all = BigInteger.ZERO;
+      for (int a = i % 2; a <= 19; a += 2) for (int b = i / 2; b <= 99; b += 2) all = all.add(choose(a + b, a));
+      is("of 2000, to " + codes[i], just2000().x.paths(codes[i]), all.longValue());
+    }
     says(30, "NONE: no LINE of those who are in it.");
     for (long code : wrongCodes()) refused(Edges::busy, "paths(" + code + ")", -1, x -> x.paths(code));
     for (long code : new long[] {0, 2, 10, 11, -1}) refused(Probe::new, "paths(" + code + ") of nobody", -1, x -> x.paths(code));
@@ -158,6 +176,12 @@ final class LinesEdges extends Edges {
     both.x.sheet(2, 3, 0, 999);
     tells(both, "empty and full", both.x.ends(0), 3, 0, 1);
     tells(both, "full, and what it paid", both.x.ends(1), 5, 998, 999);
+    both.x.sheet(3, 0, 0, 0);
+    tells(both, "empty", both.x.ends(1), 2, 0, 0);
+    Probe full = Probe.eager(3);
+    full.x.sheet(2, 3, 999, 0);
+    full.law(0, 0, 0, 0);
+    tells(full, "full", full.x.ends(1), 2, 999, 999);
     says(31, "-3;");
     refused(LinesEdges::just2001, "ends(0) of 2001", -3, x -> x.ends(0));
     Probe most = just2000();
@@ -196,6 +220,15 @@ final class LinesEdges extends Edges {
     is("nobody", new Probe().x.foremost(0), -1);
   }
 
+  /** 2, 0, 1 stand in the line, each in one sale at most. */
+  private static Probe turnedLine(String zero, String one, String two) {
+    Probe p = new Probe().rules(zero, one, two).people("99,1,0;99,1,1;99,1,2").law(0, 0, 1, 0);
+    p.x.serve(2);
+    p.x.comes(0);
+    p.x.comes(1);
+    return p;
+  }
+
   private static void finest() {
     says(33, "The LINE at rest that can come with the greatest sum();");
     is("nobody", new Probe().x.finest(), 0);
@@ -207,9 +240,14 @@ final class LinesEdges extends Edges {
     // 1 first, or 2 behind 0: by MOST only one of both can be, worth 1 more or 9 more.
     Probe both = new Probe().rules("-p*(i+1)", "-p*11").people("9,1,0;9,1,0;9,1,1").law(0, 0, 1, 0);
     tells(both, "the finer of two", both.x.finest(), -11 - 2 * 2, 1021);
+    // THE LINE is 2, 0, 1, and 0 buys of 2 or 1 of 0: the first is worth 2 more, the second 1.
+    Probe found = turnedLine("-p*3", "-p*4", "-p");
+    tells(found, "the finer of two, found first", found.x.finest(), -1 - 2 * 4, 1021);
     says(33, "of equal ones the one with the least CODE: that sum;");
     Probe equal = Probe.eager(3).law(0, 0, 1, 0);
-    tells(equal, "1021 and 1102", equal.x.finest(), -7, 1021);
+    tells(equal, "1102 and 1021", equal.x.finest(), -7, 1021);
+    Probe first = turnedLine("-p*2", "-p*3", "-p");
+    tells(first, "1021 and 1210", first.x.finest(), -7, 1021);
     says(33, "the ROW: CODE.");
     Probe nobody = new Probe();
     tells(nobody, "nobody", nobody.x.finest(), 0, 1);

@@ -243,12 +243,14 @@ final class OutcomeEdges extends Edges {
   private static void needs() {
     says(27, "The least PURSE (0 .. 999) with which, all else as it is, one would come forward() to PLACE 0;");
     is("it is there", Probe.eager(2).x.needs(0), 0);
+    is("it is there, by q", new Probe().rules("-p*q").people("9,1,0;9,1,0").x.needs(0), 0);
     is("for nothing", pair("0", "9", 0, 0).x.needs(1), 0);
     is("for 1", pair("1", "9", 0, 0).x.needs(1), 1);
     is("for 999", pair("999", "999+1", 0, 0).x.needs(1), 999);
     is("for 998 and a FEE of 1", pair("998", "999", 0, 0).law(0, 1, 99, 0).x.needs(1), 999);
     is("of eight", Probe.eager(9).x.needs(8), 36);
     is("by q, the greatest alone", new Probe().rules("0", "-p*9*(q=999)").people("0,1,0;0,1,1").x.needs(1), 999);
+    is("by q, of PLACE 0 alone", new Probe().rules("0", "(p=0)*9*(q=999)").people("0,1,0;0,1,1").x.needs(1), 999);
     is("by q, none is the least", new Probe().rules("0", "-p*9*(q=0)").people("0,1,0;9,1,1").x.needs(1), 0);
     is("by q, the least of many", new Probe().rules("-p*5", "-p*9*(q>6)*(q<8)-p*9*(q>99)").people("0,1,0;9,1,1").x.needs(1), 7);
     says(27, "the ROW: what it would pay.");

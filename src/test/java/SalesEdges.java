@@ -107,6 +107,16 @@ final class SalesEdges extends Edges {
     is("SALES", p.x.of(0, 5) + p.x.of(1, 5), 0);
     is("PLACES", p.x.line(), 1012);
     is("THE LAW is as it was told", p.x.law(1, 0), 9);
+    Probe nine = Probe.eager(9);
+    for (int turn = 0; turn < 18; turn++) {
+      nine.x.sheet(2, 9, 999 - turn, turn % 2 == 0 ? -77 : 1);
+      long[] had = purses(nine);
+      if (turn % 5 == 4) nine.x.serve(0);
+      nine.x.sell(8);
+      nine.x.sheet(3, 0, 0, 0);
+      nine.x.undo();
+      is("PURSES of nine", java.util.Arrays.equals(had, purses(nine)), true);
+    }
     says(16, "how many are left that can be.");
     Probe two = Probe.eager(3);
     two.x.run(0, 2);
@@ -116,6 +126,12 @@ final class SalesEdges extends Edges {
     refused(() -> Probe.eager(2), "undo() of none", -1, x -> x.undo());
     refused(Probe::new, "undo() of nobody", -1, x -> x.undo());
     refused(SalesEdges::allUndone, "undo() of none left", -1, x -> x.undo());
+  }
+
+  private static long[] purses(Probe p) {
+    long[] all = new long[9];
+    for (int person = 0; person < 9; person++) all[person] = p.x.of(person, 0);
+    return all;
   }
 
   private static Probe allUndone() {
@@ -211,6 +227,22 @@ final class SalesEdges extends Edges {
       is("of nobody", new Probe().x.run(sort, 200), 0);
     }
     is("MOST of 0", many().law(0, 0, 0, 0).x.run(0, 200), 0);
+    for (int sort = 0; sort < 4; sort++) {
+      Probe once = byTime();
+      Probe each = byTime();
+      int all = once.x.run(sort, 200);
+      int made = 0;
+      while (made < 200 && each.x.run(sort, 1) == 1) made++;
+      is("as many one by one", made, all);
+      is("more than a few", all > 5, true);
+      is("the same line", each.x.line(), once.x.line());
+      for (int person = 0; person < 7; person++) is("the same PURSE", each.x.of(person, 0), once.x.of(person, 0));
+    }
+  }
+
+  /** Seven whose minutes and wishes are unlike: a sale changes what its neighbours gain and lose. */
+  private static Probe byTime() {
+    return new Probe().rules("-t*(i+1)", "-t*(9-k)*i", "-t*i-p*7").people("300,9,0;300,2,1;300,7,0;300,1,2;300,5,1;300,3,0;300,8,2");
   }
 
   private static void runSorts() {
@@ -245,6 +277,10 @@ final class SalesEdges extends Edges {
     Probe equal = Probe.eager(9);
     equal.x.run(3, 1);
     is("equal ones", equal.x.line(), 1102345678);
+    // GAIN and LOSS are 10 and 5 at PLACE 1, 9 and 3 at PLACE 3.
+    Probe less = new Probe().rules("-p*5", "-p*10", "-p*3", "-p*9").people("50,1,0;50,1,1;50,1,2;50,1,3");
+    less.x.run(3, 1);
+    is("6 is more than 5", less.x.line(), 10132);
     Probe closed = new Probe().rules("-p*i*i").people("50,1,0;50,1,0!;50,1,0");
     closed.x.run(3, 1);
     is("the greatest can't be", closed.x.line(), 1102);
@@ -312,6 +348,17 @@ final class SalesEdges extends Edges {
     tells(byPurse, "by q of the seller, full", byPurse.x.walls(), 1, 2, 0);
     byPurse.rules("-p*(9-(q=0)*9)", "-p*9");
     tells(byPurse, "by q of the seller, empty", byPurse.x.walls(), 1, 2, 0);
+    byPurse.rules("-p*(9-(q>999)*9-(q<0)*9)", "-p*9");
+    tells(byPurse, "by q of the seller, that can't be", byPurse.x.walls(), 0, 0, 2);
+    byPurse.rules("0", "(q=7)*-9*p");
+    tells(byPurse, "by q, the first sign of a RULE", byPurse.x.walls(), 1, 2, 0);
+    byPurse.rules("0", "-p*((q>999)+(q<0))*9");
+    tells(byPurse, "by q of the buyer, that can't be", byPurse.x.walls(), 0, 0, 2);
+    // 2 gains the 3 minutes of 1, who loses 3 or 2.
+    Probe byTime = new Probe().rules("0", "-p*3", "0-t").people("0,2,0;0,3,1;0,1,2");
+    tells(byTime, "by minutes, GAIN is LOSS", byTime.x.walls(), 1, 2, 4);
+    byTime.rules("0", "-p*2", "0-t");
+    tells(byTime, "by minutes", byTime.x.walls(), 2, 6, 0);
     changesNothing(Edges::busy, "walls()", x -> x.walls());
     says(20, "WALLS are the others: how many;");
     is("they are counted, not WALLS", Probe.eager(4).law(0, 0, 99, 1).x.walls(), 2);

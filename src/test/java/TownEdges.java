@@ -98,6 +98,12 @@ final class TownEdges extends Edges {
     says(4, "THE TEXT tells of THE TOWN (an empty one: nothing): how many LINES.");
     is("none", new Probe().town(""), 0);
     is("none, of some", busy().town(""), 0);
+    Probe nothing = busy();
+    long gained = nothing.x.gained(2);
+    nothing.town("");
+    is("nothing is told by it: THE LINE AS IT CAME stays", nothing.x.gained(2), gained);
+    is("it is another one", gained != 0, true);
+    is("nobody comes by it", nothing.x.count(0), 6);
     is("one", new Probe().town("1,1,1"), 1);
     is("FRIENDS count", new Probe().town("1,1,1;1,1,1;f0-1;f1-0"), 4);
     is("nine", new Probe().town("1,1,1" + ";1,1,1".repeat(8)), 9);
@@ -163,6 +169,10 @@ final class TownEdges extends Edges {
     p.people("8,8,2");
     is("what comes later is told anew", p.x.of(6, 3), 0);
     is("what comes later is told anew", p.x.of(6, 0), 8);
+    p.text("f1-2;f1-5;x").x.town();
+    p.people("8,8,2;f1-6");
+    is("so are FRIENDS", p.x.of(1, 6), 64);
+    is("so are FRIENDS", p.x.of(2, 6), 0);
   }
 
   private static void rule() {
@@ -183,10 +193,16 @@ final class TownEdges extends Edges {
     says(5, "-1 - p: the sign at p can't stand there (its end, if it ends too early;");
     String[][] wrong = {
       {"x", "0"}, {"1x", "1"}, {"1+x", "2"}, {"(x", "1"}, {"(1x", "2"}, {"(1)x", "3"}, {"-x", "1"}, {"1<x", "2"}, {"1<2x", "3"}, {")", "0"},
-      {"1)", "1"}, {"(1))", "3"}, {"1<2<3", "3"}, {"(1<2<3)", "4"}, {"1234", "3"}, {"t1", "1"}, {"1t", "1"}, {"(t)t", "3"}, {"(((((", "4"},
+      {"1)", "1"}, {"(1))", "3"}, {"1<2<3", "3"}, {"(1<2<3)", "4"}, {"1234", "3"}, {"t1", "1"}, {"1t", "1"}, {"(t)t", "3"}, {"(((((", "4"}, {"(1)2", "3"}, {"(12)3", "4"}, {"((1)2", "4"}, {"((12))3", "6"},
       {"1", "none"}, {"-", "1"}, {"1+", "2"}, {"1*", "2"}, {"1<", "2"}, {"(", "1"}, {"(1", "2"}, {"((1)", "4"}, {"1--", "3"}, {"(((((1)))))", "4"},
     };
     for (String[] w : wrong) is(w[0], new Probe().rule(1, w[0]), w[1].equals("none") ? 0 : -1 - Integer.parseInt(w[1]));
+    Probe anew = new Probe().people("1,1,0");
+    for (String w : new String[] {"((((", "1<2<", "12x", "----", "(1<2", "9*"}) {
+      is(w + " is refused", anew.rule(0, w) < 0, true);
+      is("what comes behind " + w + " is read anew", anew.rule(0, "((((1<2))))+5=6"), 0);
+      is("what comes behind " + w + " is read anew", anew.x.worth(0, 0), 1);
+    }
     is("40 that end too early", new Probe().rule(0, SUM + "1+"), -41);
     is("39 that end too early", new Probe().rule(0, SUM + "("), -40);
     refusedText(() -> busy().text("9-p*3*"), "one that ends too early", -7, x -> x.rule(3));
@@ -344,9 +360,12 @@ final class TownEdges extends Edges {
     is("they are already", p.x.friend(8, 0, true), true);
     is("both ways", p.x.of(0, 6), 256);
     is("both ways", p.x.of(8, 6), 1);
+    p.x.friend(8, 7, true);
     is("they are not", p.x.friend(8, 0, false), true);
+    is("both ways", p.x.of(0, 6), 0);
+    is("both ways, others are", p.x.of(8, 6), 128);
     is("they are not already", p.x.friend(0, 8, false), true);
-    is("both ways", p.x.of(0, 6) + p.x.of(8, 6), 0);
+    is("they are not already", p.x.of(8, 6), 128);
     p.x.serve(9);
     is("not in THE LINE", p.x.friend(1, 2, true), true);
     says(9, "Refused: others.");

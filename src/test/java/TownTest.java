@@ -202,7 +202,7 @@ public final class TownTest {
       {"t<", things}, {"t>", things}, {"t=", things}, {"(((", things}, {"((((", things.substring(0, 18)}, {"((((t))))-", things},
       {"t", binding}, {"p", binding}, {"n", binding}, {"l", binding}, {"i", binding}, {"q", binding}, {"k", binding}, {"-t", binding},
       {"1", binding + "0123456789"}, {"12", binding + "0123456789"}, {"123", binding}, {"(1", binding + "0123456789)"},
-      {"(123", binding + ")"}, {"(t", binding + ")"}, {"(t)", binding}, {"((t)", binding + ")"}, {"((((t", binding + ")"},
+      {"(123", binding + ")"}, {"(t", binding + ")"}, {"(t)", binding}, {"(1)", binding}, {"(12)", binding}, {"((1)", binding + ")"}, {"((t)", binding + ")"}, {"((((t", binding + ")"},
       {"t<p", "+-*/"}, {"t=1", "+-*/0123456789"}, {"t>p+n", "+-*/"}, {"t<(p", binding + ")"}, {"t<(p=n", "+-*/)"}, {"(t<p)", binding},
       {"(t<p", "+-*/)"}, {"(t<p)=n", "+-*/"}, {"(t<p)+(n", binding + ")"},
     };
