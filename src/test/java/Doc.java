@@ -7,7 +7,10 @@ import java.util.List;
 import java.util.regex.Matcher;
 import java.util.regex.Pattern;
 
-/** The words of ../shared/DOC.md, its Terms with how long an object is used (0) and promises 1 to 47: which of them tests have quoted, and which not yet. */
+/**
+ * The words of ../shared/DOC.md that bind, its Terms with how long an object is used (0) and promises 1 to 47: which of
+ * them tests have quoted, and which not yet.
+ */
 final class Doc {
   static final int PROMISES = 47;
   private static final String[] PARTS = new String[PROMISES + 1];
