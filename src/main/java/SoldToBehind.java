@@ -1476,7 +1476,7 @@ public final class SoldToBehind {
             int ahead = minutesAhead(place - 1);
             int behind = ahead + town.minutes[who[place]];
             int richest = town.asksPurse(seller) ? MOST_PURSE : 0;
-            int least = Integer.MAX_VALUE;
+            int least = 2 * MOST_WORTH;
             for (int coins = 0; coins <= richest; coins++) {
                 int loss = town.worthOf(seller, place - 1, ahead, size, coins, sales[seller])
                         - town.worthOf(seller, place, behind, size, coins, sales[seller]);
@@ -1801,7 +1801,7 @@ public final class SoldToBehind {
         void tellRests(Row row) {
             int rests = 0;
             int most = 0;
-            int fewest = Integer.MAX_VALUE;
+            int fewest = MOST_LINES;
             for (int line = 0; line < count; line++) {
                 if (rest[line]) {
                     rests++;

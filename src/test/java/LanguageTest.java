@@ -26,7 +26,15 @@ public final class LanguageTest {
   private static final String[] FORBIDDEN = {
     "->", "::", "\\btry\\b", "\\bcatch\\b", "\\bfinally\\b", "\\bassert\\b", "\\bsynchronized\\b", "\\bvar\\b", "Exact\\(",
     "\\bdouble\\b", "\\bfloat\\b", "System\\.(?!arraycopy)", "\\bstatic \\{", "\\bObject\\b", "\\bhashCode\\b", "\\btoString\\b",
+    "\\b(Integer|Long|Math|Arrays)\\.\\w+\\b(?!\\()",
   };
+  /** What the program may call of the library: of rule 4 what it needs, no more. */
+  private static final Set<String> LIBRARY = Set.of(
+      "java.lang.Object.<init> ()V", "java.util.NoSuchElementException.<init> (Ljava/lang/String;)V",
+      "java.lang.Integer.bitCount (I)I", "java.lang.Math.max (II)I", "java.lang.Math.min (II)I",
+      "java.lang.String.indexOf (I)I", "java.util.Arrays.fill ([II)V", "java.util.Arrays.fill ([JJ)V",
+      "java.lang.System.arraycopy (Ljava/lang/Object;ILjava/lang/Object;II)V");
+  private static final int MOST_DEEP = 8;
 
   private static int wrong = 0;
 
@@ -34,6 +42,10 @@ public final class LanguageTest {
     face();
     classes();
     source();
+    Compiled all = Compiled.of(SoldToBehind.class);
+    library(all);
+    depth(all);
+    made(all);
     System.out.println("language: " + wrong + " wrong");
     if (wrong > 0) System.exit(1);
   }
@@ -101,5 +113,49 @@ public final class LanguageTest {
       if (code.matches(" {4}( {4})?\\}")) holds(i - opened <= 60, "a method of more than 60 lines ends at " + (i + 1));
       for (char c : line.toCharArray()) holds(c > 0 && c < 128, "line " + (i + 1) + " has a sign beyond 127");
     }
+  }
+
+  private static void library(Compiled all) {
+    Set<String> found = new TreeSet<>();
+    for (Set<String> called : all.calls.values()) found.addAll(called);
+    found.removeAll(all.calls.keySet());
+    for (String name : found) holds(LIBRARY.contains(name), "calls of the library " + name);
+    holds(!found.isEmpty(), "no calls of the library were found");
+  }
+
+  /** Calls that are no recursion go at most eight deep, the library's among them; only extend() calls itself. */
+  private static void depth(Compiled all) {
+    for (String name : all.calls.keySet()) {
+      boolean itself = all.calls.get(name).contains(name);
+      holds(!itself || name.startsWith("SoldToBehind$Orders.extend "), name + " calls itself");
+      List<String> deepest = deepest(all, name, 1);
+      holds(deepest.size() <= MOST_DEEP, deepest.size() + " deep: " + deepest);
+    }
+    holds(deepest(all, "SoldToBehind.best (I)I", 1).size() > 2, "no calls were found");
+  }
+
+  /** Where calls go round by more than one method no end is found: that many levels are told then. */
+  private static List<String> deepest(Compiled all, String from, int level) {
+    List<String> longest = List.of();
+    for (String to : level > 2 * MOST_DEEP ? Set.<String>of() : all.calls.getOrDefault(from, Set.of())) {
+      List<String> behind = to.equals(from) ? List.of() : deepest(all, to, level + 1);
+      if (behind.size() > longest.size()) longest = behind;
+    }
+    List<String> path = new ArrayList<>(List.of(from));
+    path.addAll(longest);
+    return path;
+  }
+
+  /** A run's calls share one room: all is made with the object, but for Reach at its first use and what is thrown. */
+  private static void made(Compiled all) {
+    for (String name : all.made.keySet()) {
+      boolean first = name.contains(".<init> ") || name.contains(".<clinit> ");
+      for (String what : all.made.get(name)) {
+        boolean known = what.equals("java.util.NoSuchElementException")
+            || what.equals("SoldToBehind$Reach") && name.startsWith("SoldToBehind.allLines ");
+        holds(first || known, name + " makes " + what);
+      }
+    }
+    holds(all.made.get("SoldToBehind.<init> ()V").contains("[]"), "nothing that is made was found");
   }
 }
